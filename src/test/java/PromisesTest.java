@@ -142,6 +142,8 @@ public final class PromisesTest {
         x.set(2, 2, 1);
         x.set(4, 2, 1);
         due("heard", x.now(6), 20);
+        x.set(0, 2, 1);
+        due("heard", x.now(6), 21);
         x.set(0, 3, 9999);
         x.set(4, 3, 2);
         due("stumbled", x.now(7), 10001);
@@ -425,6 +427,26 @@ public final class PromisesTest {
         due("hears", x.hears(0), 0);
         due("hears", x.hears(3), BEYOND);
         due("hears", x.hears(-1), BEYOND);
+        farAhead();
+    }
+
+    /** The porter's nerve after its third root is 81 less 3 a round: 18 in step 647, so it is silent, and the child falls in 648. */
+    private static void farAhead() {
+        OneLantern x = row(4, 2, 0);
+        x.lantern(-1);
+        x.roots(1 << 3 | 1 << 10 | 1 << 17);
+        x.set(0, 4, 99);
+        x.steps(200);
+        x.steps(147);
+        promise = 15;
+        due("trips in 301", x.trips(1), NONE);
+        promise = 16;
+        due("hears in 301", x.hears(2), NONE);
+        x.steps(1);
+        promise = 15;
+        due("trips in 300", x.trips(1), 300);
+        promise = 16;
+        due("hears in 300", x.hears(2), 300);
     }
 
     private static void best() {
@@ -467,6 +489,7 @@ public final class PromisesTest {
         x.lantern(-1);
         due("kind in the dark", x.kind(0, 100), 3);
         due("before any root", x.kind(0, 2), 0);
+        due("before any root", x.kind(0, 1), 0);
         due("kind", x.kind(0, 0), BEYOND);
         due("kind", x.kind(0, 101), BEYOND);
         due("kind", x.kind(1, 1), BEYOND);
@@ -487,6 +510,12 @@ public final class PromisesTest {
         due("least", x.least(0, 1), BEYOND);
         due("least", x.least(101, 1), BEYOND);
         due("least of nobody", new OneLantern().least(100, 0), 0);
+        x = row(0, 4, 4, 1, 0);
+        x.roots(1 << 27);
+        due("the brightest", x.least(1, 0), 9);
+        x = row(0, 4, 4, 4, 0);
+        x.roots(1 << 27);
+        due("none is bright enough", x.least(1, 0), NONE);
 
         promise = 21;
         x = row(0);
@@ -500,6 +529,10 @@ public final class PromisesTest {
         due("clear", x.clear(0), BEYOND);
         due("clear", x.clear(61), BEYOND);
         due("nothing changes", x.count(2), 3);
+        x.roots(1);
+        due("the first pace", x.clear(1), 0);
+        x.roots(1 << 29);
+        due("the last pace", x.clear(1), 29);
         x.roots(0);
         due("no root", x.clear(1), NONE);
         due("clear of nobody", new OneLantern().clear(60), 3);
@@ -605,6 +638,8 @@ public final class PromisesTest {
         fault("walker tall", 7);
         fault("walkers", 0);
         fault("Walker", 0);
+        fault("xalker", 0);
+        fault("walkerz", 0);
         fault("walkeR", 0);
         fault("walker!", 6);
         fault("walker\t", 6);
@@ -669,6 +704,9 @@ public final class PromisesTest {
         due("it still stands", x.write(0, 39, 5), 0);
         due("sheet", x.sheet(0, 16, 40), 40);
         due("all are 0", x.write(0, 39, 5), 0);
+        x.write(0, 0, 7);
+        x.sheet(0, 16, 40);
+        due("all are 0", x.write(0, 0, 5), 0);
         due("sheet", x.sheet(0, 0, 7), 0);
         due("it is missing", x.write(0, 0, 5), MISSING);
         due("empty is not missing", x.lays(3), 0);
