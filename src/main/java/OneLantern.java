@@ -26,6 +26,7 @@ public final class OneLantern {
     private static final int MOST_BRIGHT = 9;
     private static final int BRIGHT_AT_FIRST = 3;
     private static final int MOST_STUMBLED = 9999;
+    private static final int ABOVE_ALL_STUMBLED = MOST_WALKERS * MOST_STUMBLED + 1;
     private static final int MOST_NERVE = 99;
     private static final int NERVE_AT_FIRST = 50;
     private static final int LAST_STEP = 99999;
@@ -240,7 +241,7 @@ public final class OneLantern {
             return tell(NONE);
         }
         int best = 0;
-        int fewest = Integer.MAX_VALUE;
+        int fewest = ABOVE_ALL_STUMBLED;
         for (int place = 0; place < row.count; place++) {
             lookAhead();
             ahead.lantern = place;
@@ -279,7 +280,7 @@ public final class OneLantern {
             return tell(BEYOND);
         }
         int best = 0;
-        int fewest = Integer.MAX_VALUE;
+        int fewest = ABOVE_ALL_STUMBLED;
         for (int kind = 0; kind < KINDS; kind++) {
             lookAhead();
             ahead.kinds[place] = kind;
@@ -311,7 +312,7 @@ public final class OneLantern {
             return tell(BEYOND);
         }
         int best = -1;
-        int fewest = Integer.MAX_VALUE;
+        int fewest = ABOVE_ALL_STUMBLED;
         for (int pace = 0; pace < PACES; pace++) {
             if (isIn(row.roots, pace)) {
                 lookAhead();
