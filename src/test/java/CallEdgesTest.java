@@ -425,6 +425,7 @@ public final class CallEdgesTest {
         x.lantern(-1);
         x.roots(0);
         Check.due("nobody has it yet", x.carry(100), 0);
+        Check.due("the least, as all are held", allHeld().carry(100), 0);
         beyond("carry(0)", y -> y.carry(0));
         beyond("carry(101)", y -> y.carry(101));
         beyond("carry of the lowest", y -> y.carry(Check.LOWEST));
@@ -457,6 +458,7 @@ public final class CallEdgesTest {
         Check.due("the first and the last", x.order(1), 7);
         Check.refused("of one", () -> Check.dark(2, 0), y -> y.order(1), Check.NONE);
         Check.refused("of nobody", OneLantern::new, y -> y.order(1), Check.NONE);
+        Check.refused("of eight that are held", CallEdgesTest::allHeld, y -> y.order(100), Check.NONE);
         Check.refused("of two alike", () -> Check.dark(2, 0, 0), y -> y.order(100), Check.NONE);
         beyond("order(0)", y -> y.order(0));
         beyond("order(101)", y -> y.order(101));
@@ -477,6 +479,12 @@ public final class CallEdgesTest {
         Check.due("the last place, of several the least", x.kind(7, 1), 0);
         x.set(7, 3, 9999);
         Check.due("as many, being held", x.kind(7, 100), 0);
+        x = Check.dark(2, 0);
+        x.set(0, 2, 1);
+        x.set(0, 4, 29);
+        Check.due("a CHILD heeds, and is less than a GUIDE", x.kind(0, 1), 2);
+        x.set(0, 4, 30);
+        Check.due("a WALKER heeds, too", x.kind(0, 1), 0);
         beyond("n 0", y -> y.kind(0, 0));
         beyond("n 101", y -> y.kind(0, 101));
         beyond("n of the lowest", y -> y.kind(0, Check.LOWEST));
@@ -506,10 +514,7 @@ public final class CallEdgesTest {
         x.roots(1);
         Check.due("1 is the least", x.least(1, 0), 1);
         Check.refused("10 would be the least", CallEdgesTest::deepShade, y -> y.least(1, 0), Check.NONE);
-        x = Check.row(0, 0, 0, 0, 0, 0, 0, 0);
-        for (int place = 0; place < 8; place++) {
-            x.set(place, 3, 9999);
-        }
+        x = allHeld();
         Check.due("the most that can be", x.least(100, 79992), 0);
         Check.due("1 less", x.least(100, 79991), Check.NONE);
         Check.due("v 99999", x.least(100, 99999), 0);
@@ -520,6 +525,15 @@ public final class CallEdgesTest {
         beyond("v 100000", y -> y.least(1, 100000));
         beyond("n of the highest", y -> y.least(Check.HIGHEST, 0));
         beyond("v of the lowest", y -> y.least(1, Check.LOWEST));
+    }
+
+    /** Eight whose STUMBLED can be no more. */
+    private static OneLantern allHeld() {
+        OneLantern x = Check.row(0, 0, 0, 0, 0, 0, 0, 0);
+        for (int place = 0; place < 8; place++) {
+            x.set(place, 3, 9999);
+        }
+        return x;
     }
 
     /** The last one is 4 off, and 6 comes off BRIGHT first. */
@@ -548,6 +562,7 @@ public final class CallEdgesTest {
         x.roots(1 << 29);
         Check.due("the last root", x.clear(60), 29);
         Check.due("the least, as nobody falls", new OneLantern().clear(60), 3);
+        Check.due("the least, as all are held", allHeld().clear(60), 3);
         beyond("clear(0)", y -> y.clear(0));
         beyond("clear(61)", y -> y.clear(61));
         beyond("clear of the lowest", y -> y.clear(Check.LOWEST));

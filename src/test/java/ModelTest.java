@@ -479,18 +479,22 @@ public final class ModelTest {
         return s.length() > 120 ? s.substring(0, 120) : s.toString();
     }
 
+    private static final int MOST_FED = 120;
+
     private static boolean run(int seed) {
         Random r = new Random(seed);
         OneLantern x = new OneLantern();
         ModelTest model = new ModelTest();
         List<String> told = new ArrayList<>();
-        for (int i = 0; i < 500; i++) {
+        // behind its 512th call an object's answers are free, and a text is fed first
+        for (int i = 0; i + 1 + MOST_FED <= 512; i++) {
             int call = i < 20 && r.nextBoolean() ? 4 : r.nextInt(36);
             if (call == 24) {
                 String text = nightText(r);
                 for (int k = 0; k < text.length() && r.nextInt(400) > 0; k++) {
                     x.feed(text.charAt(k), 1);
                     model.answer(22, text.charAt(k), 1, 0, 0, null);
+                    i++;
                 }
             }
             if (call == 32 && r.nextInt(3) > 0 || call == 0 && r.nextInt(3) > 0) continue;
@@ -511,7 +515,7 @@ public final class ModelTest {
     }
 
     public static void main(String[] args) {
-        int runs = args.length > 0 ? Integer.parseInt(args[0]) : 150;
+        int runs = args.length > 0 ? Integer.parseInt(args[0]) : 200;
         int wrong = 0;
         for (int seed = 1; seed <= runs; seed++) {
             if (!run(seed)) wrong++;

@@ -391,6 +391,13 @@ public final class SheetEdgesTest {
         twin = Check.camp();
         twin.image();
         Check.same("image and undo in a camp", x, twin);
+        x = Check.camp();
+        x.sheet(0, 8, 2);
+        x.write(0, 1, 9);
+        x.sheet(1, 0, 0);
+        Check.due("sheets are no part of section 1", x.undo(), 3);
+        Check.due("a sheet stays", x.write(0, 1, 0), 9);
+        Check.due("a MISSING one stays", x.lays(1), Check.MISSING);
         x = new OneLantern();
         Check.due("of nobody", x.image(), 1);
         x.walker(0);

@@ -232,7 +232,7 @@ public final class TextEdgesTest {
     private static void faultOfWords() {
         Check.sentence("(another WORD ..)");
         String[] words = {"walkers", "walke", "talk", "t", "childe", "guid", "nerve", "roots", "roo", "cleer", "lanterns", "brigh", "swop",
-            "wolker", "walkez", "z", "a", "zall"};
+            "wolker", "walkerz", "tallz", "walkera", "z", "a", "zall"};
         for (String word : words) {
             fault(word + " 1", 0);
             fault("tall;" + word + " 1", 5);
