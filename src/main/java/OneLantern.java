@@ -45,8 +45,7 @@ public final class OneLantern {
     private final Row ahead = new Row();
     private final Row kept = new Row();
     private boolean isKept;
-    private final Tape tape = new Tape();
-    private final NightReader reader = new NightReader(tape);
+    private final NightReader reader = new NightReader();
     private final Sheet[] sheets = new Sheet[SHEETS];
     private final int[] told = new int[FINDINGS];
 
@@ -365,18 +364,18 @@ public final class OneLantern {
         if (!within(n, 1, 4)) {
             return tell(BEYOND);
         }
-        if (tape.length > MOST_BYTES - n) {
+        if (reader.tape.length > MOST_BYTES - n) {
             return tell(FULL);
         }
         for (int i = n - 1; i >= 0; i--) {
-            tape.add((byte) (bytes >> 8 * i));
+            reader.tape.add((byte) (bytes >> 8 * i));
         }
-        return tape.length;
+        return reader.tape.length;
     }
 
     public int wipe() {
-        int had = tape.length;
-        tape.length = 0;
+        int had = reader.tape.length;
+        reader.tape.length = 0;
         return had;
     }
 
@@ -387,7 +386,7 @@ public final class OneLantern {
         if (items >= 0) {
             row.takeFrom(ahead);
         }
-        tape.length = 0;
+        reader.tape.length = 0;
         return items;
     }
 
@@ -520,7 +519,7 @@ public final class OneLantern {
     public int count(int what) {
         switch (what) {
             case 0: return row.count;
-            case 1: return tape.length;
+            case 1: return reader.tape.length;
             case 2: return Integer.bitCount(row.roots);
             case 3: return row.allNerve();
             default: return tell(BEYOND);
@@ -913,7 +912,7 @@ public final class OneLantern {
         }
     }
 
-    /** Reads the text of a night off the tape, token by token. */
+    /** Has the tape, and reads the text of a night off it, token by token. */
     private static final class NightReader {
         /** The tokens 0 to 5 are the names of the kinds. */
         private static final int NERVE = 6;
@@ -929,15 +928,11 @@ public final class OneLantern {
         private static final int OTHER = 15;
         private static final int ABOVE_NUMBERS = 1000;
 
-        private final Tape tape;
+        private final Tape tape = new Tape();
         private int token;
         private int start;
         private int behind;
         private int number;
-
-        private NightReader(Tape tape) {
-            this.tape = tape;
-        }
 
         /** How many items came to the row, or -1 less the place of the fault. */
         private int tellTo(Row row) {

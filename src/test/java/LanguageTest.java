@@ -95,6 +95,9 @@ public final class LanguageTest {
                 check(m + " takes at most seven", m.getParameterCount() <= 7);
                 check(m + " has no public name", Modifier.isPublic(m.getModifiers()) || !publicNames.contains(m.getName()));
             }
+            for (Constructor<?> made : c.getDeclaredConstructors()) {
+                check(made + " is handed nothing of an object that is being made", made.getParameterCount() == 0);
+            }
             check(c + " is static", c == OneLantern.class || Modifier.isStatic(c.getModifiers()));
         }
     }
